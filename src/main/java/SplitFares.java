@@ -33,7 +33,7 @@ public final class SplitFares {
     private static final int DAY = 0;
     private static final int CHECKS = 1;
     private static final int LAST_DAY = 999;
-    private static final int[] MOST_OF_TERM = {LAST_DAY, 10, 9};
+    private static final int[] MOST_OF_TERM = {999, 10, 9};
 
     // what an undone deed is told as
     private static final int BOUGHT = 0;
@@ -80,9 +80,9 @@ public final class SplitFares {
     private static final int OP_SAME = 12;
 
     private static final int SO = 1;
-    private static final int BROKEN = Integer.MIN_VALUE;
+    private static final int BROKEN = -2_000_000_000;
     private static final long FARTHEST_VALUE = 1_000_000_000L;
-    private static final long BEYOND = Long.MAX_VALUE;
+    private static final long BEYOND = 2_000_000_000L;
 
     // words of LAWS, of ORDERS: their places in a Machine's words
     private static final int LAW_FROM = 0;
@@ -108,7 +108,6 @@ public final class SplitFares {
     private final Tape tape = new Tape();
     private final Reader reader = new Reader();
     private final Office[] images = new Office[IMAGES];
-    private final boolean[] imageKept = new boolean[IMAGES];
     private final int[] refusals = new int[7];
     private final int[] answers = new int[MOST_TRAINS * STATIONS];
     private final int[] drawnTerms = new int[4];
@@ -120,9 +119,6 @@ public final class SplitFares {
     private int latestStatus = 0;
 
     public SplitFares() {
-        for (int k = 0; k < IMAGES; k++) {
-            images[k] = new Office();
-        }
     }
 
     public int train(int stops, int up, int hour) {
@@ -338,7 +334,7 @@ public final class SplitFares {
     public int bestTrain(int from, int to) {
         int best = NONE;
         int bestCost = NONE;
-        for (int t = 0; t < desk.office.trainCount; t++) {
+        for (int t = 0; t < MOST_TRAINS && desk.office.hasTrain(t); t++) {
             int cost = leastOn(t, from, to, STATIONS - 1);
             if (cost >= 0 && (best == NONE || cost < bestCost)) {
                 best = t;
@@ -374,7 +370,7 @@ public final class SplitFares {
         Pocket pocket = desk.office.pocket;
         fillAnswers();
         int bits = 1 << pocket.at;
-        for (int i = 0; i < desk.office.trainCount * STATIONS; i++) {
+        for (int i = 0; i < answers.length && desk.office.hasTrain(i / STATIONS); i++) {
             if (answers[i] >= 0 && answers[i] <= pocket.purse) {
                 bits |= 1 << (i % STATIONS);
             }
@@ -393,9 +389,6 @@ public final class SplitFares {
     }
 
     public int told(int station, int n) {
-        if (!isStation(station) || n < NONE || n > MOST_PENCE) {
-            return refused(BAD_NUMBER);
-        }
         return answered(desk.office.addTold(station, n));
     }
 
@@ -486,8 +479,10 @@ public final class SplitFares {
         if (k < 0 || k >= IMAGES) {
             return refused(BAD_NUMBER);
         }
+        if (images[k] == null) {
+            images[k] = new Office();
+        }
         images[k].copyFrom(desk.office);
-        imageKept[k] = true;
         return accepted(0);
     }
 
@@ -495,7 +490,7 @@ public final class SplitFares {
         if (k < 0 || k >= IMAGES) {
             return refused(BAD_NUMBER);
         }
-        if (!imageKept[k]) {
+        if (images[k] == null) {
             return refused(NO_SUCH);
         }
         desk.office.copyFrom(images[k]);
@@ -575,7 +570,7 @@ public final class SplitFares {
     /** What the CHEAPEST from AT costs, for each TRAIN and each STATION. */
     private void fillAnswers() {
         Office office = desk.office;
-        for (int t = 0; t < office.trainCount; t++) {
+        for (int t = 0; t < MOST_TRAINS && office.hasTrain(t); t++) {
             desk.ways.fillWithSingles(office, t);
             for (int s = 0; s < STATIONS; s++) {
                 answers[t * STATIONS + s] = desk.ways.least(office.pocket.at, s, STATIONS - 1);
@@ -586,9 +581,9 @@ public final class SplitFares {
     private int trainsThatFit() {
         Office office = desk.office;
         int bits = 0;
-        for (int t = 0; t < office.trainCount; t++) {
+        for (int t = 0; t < MOST_TRAINS && office.hasTrain(t); t++) {
             boolean fits = true;
-            for (int i = 0; i < office.toldCount; i++) {
+            for (int i = 0; i < MOST_TOLD && i < office.toldCount; i++) {
                 fits = fits && answers[t * STATIONS + office.toldStations[i]] == office.toldCosts[i];
             }
             if (fits) {
@@ -695,7 +690,7 @@ public final class SplitFares {
         }
 
         boolean hasTrain(int number) {
-            return number >= 0 && number < trainCount;
+            return number >= 0 && number < trainCount && number < MOST_TRAINS;
         }
 
         int addTrain(int bits, int up, int hour) {
@@ -722,6 +717,9 @@ public final class SplitFares {
         }
 
         int addTold(int station, int n) {
+            if (!isStation(station) || n < NONE || n > MOST_PENCE) {
+                return BAD_NUMBER;
+            }
             if (toldCount >= MOST_TOLD) {
                 return NO_ROOM;
             }
@@ -749,7 +747,7 @@ public final class SplitFares {
         }
 
         Program lawOf(int number) {
-            return number >= 0 && number < lawCount ? laws[number] : null;
+            return number >= 0 && number < lawCount && number < MOST_LAWS ? laws[number] : null;
         }
 
         int addLaw(Program law) {
@@ -1283,8 +1281,8 @@ public final class SplitFares {
 
     /** Reads a TEXT into a Program; where it can't go on, the TOKEN to be read is the FAULT. */
     private static final class Reader {
+        // levels of the grammar: a TEST or a SUM, below it a BOTH or a TERM, below that a PLAIN or a PART
         private static final int WHOLE = 0;
-        private static final int LINK = 1;
         private static final int PIECE = 2;
 
         final Program draft = new Program();
@@ -1392,7 +1390,7 @@ public final class SplitFares {
             return true;
         }
 
-        /** A TEST (WHOLE), a BOTH (LINK), a PLAIN (PIECE), inside so many brackets. */
+        /** A TEST, a BOTH or a PLAIN, inside so many brackets. */
         private static boolean readTest(Reader reader, int level, int brackets) {
             Tokens tokens = reader.tokens;
             if (level < PIECE) {
@@ -1456,7 +1454,7 @@ public final class SplitFares {
             return tokens.isSign('=') ? OP_SAME : NONE;
         }
 
-        /** A SUM (WHOLE), a TERM (LINK), a PART (PIECE), inside so many brackets. */
+        /** A SUM, a TERM or a PART, inside so many brackets. */
         private static boolean readSum(Reader reader, int level, int brackets) {
             Tokens tokens = reader.tokens;
             if (level < PIECE) {
@@ -1484,7 +1482,7 @@ public final class SplitFares {
             return true;
         }
 
-        /** Which step the sign tells that may go on a SUM (WHOLE), a TERM (LINK). */
+        /** The step of a sign by which a SUM or a TERM goes on. */
         private int signOf(int level) {
             if (level == WHOLE) {
                 if (tokens.isSign('+')) {

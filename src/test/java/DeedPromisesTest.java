@@ -6,6 +6,7 @@ public final class DeedPromisesTest {
         buy();
         ride();
         rideByFewest();
+        rideBySeven();
         rideSorts();
         rideHalves();
         save();
@@ -104,6 +105,20 @@ public final class DeedPromisesTest {
         D.due("down", x.ride(1, 0), 2);
         D.due("by 5, which comes sooner", x.held(0, 7, 5) + x.held(0, 5, 0), 0);
         D.due("not by 1", x.held(0, 7, 1) + x.held(0, 1, 0), 2);
+    }
+
+    private static void rideBySeven() {
+        D.promise("18, 31");
+        SplitFares x = new SplitFares();
+        x.train(255, 1, 8);
+        for (int s = 0; s < 7; s++) {
+            x.buy(0, s, s + 1);
+        }
+        D.due("used(0, 7, -1)", x.used(0, 7, -1), 7);
+        D.due("used(0, 7, 6)", x.used(0, 7, 6), 7);
+        D.due("used(0, 7, 7)", x.used(0, 7, 7), -1);
+        D.due("ride(0, 7)", x.ride(0, 7), 7);
+        D.due("count(3)", x.count(3), 0);
     }
 
     /** A SINGLE, else a HALF, else a RETURN, each if it is not BARRED. */
@@ -338,6 +353,10 @@ public final class DeedPromisesTest {
                 D.due("drawn(" + what + ")", x.drawn(what), m.drawn(what));
             }
         }
+        SplitFares y = new SplitFares();
+        y.train(3, 1, 8);
+        D.due("months by one TRAIN", y.months(0, 1), 0);
+        D.due("drawn(0)", y.drawn(0), 985);
         x.terms(0, 999);
         D.due("months on the last DAY", x.months(5, 60), 0);
         D.due("drawn(0)", x.drawn(0), x.count(2));

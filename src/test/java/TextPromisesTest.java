@@ -66,7 +66,7 @@ public final class TextPromisesTest {
             {"bars if far > 2 or", 18}, {"bars if far > 2 and", 19}, {"bars if or", 8}, {"bars if far > 2 and or", 20}, {"bars if (not far)", 16},
             {"bars;", 5}, {"bars;;", 5}, {";bars", 0}, {"bars bars", 5}, {"bars times 2", 5}, {"costs 1 if 1=1 if 2=2", 15}, {"costs 1\n", 7},
             {"costs 1\u0000", 7}, {"costs 1\u00e9", 7}, {"costs 1 if 1=1;x", 15}, {"pass", 0}, {"costs [1", 8}, {"costs [1)", 8}, {"costs []", 7},
-            {"costs to to 2", 9}, {"bars if 1=1 2", 12}, {"bars if (1=1) > 2", 14}, {"bars if 1=1=1", 11}, {"costs 1.5", 7}, {"costs 5far", 7}};
+            {"costs to to 2", 9}, {"costs farz", 6}, {"costs zfar", 6}, {"costs far`", 9}, {"costs far{", 9}, {"costs 5:", 7}, {"costs afar", 6}, {"bars if 1=1 2", 12}, {"bars if (1=1) > 2", 14}, {"bars if 1=1=1", 11}, {"costs 1.5", 7}, {"costs 5far", 7}};
         for (Object[] b : bad) {
             fault(false, (String) b[0], (Integer) b[1]);
         }
@@ -117,6 +117,10 @@ public final class TextPromisesTest {
         // 8 brackets of both kinds within one another
         fault(false, "costs " + "[".repeat(8) + "1" + "]".repeat(8), -1);
         fault(false, "costs " + "[".repeat(9) + "1" + "]".repeat(9), 14);
+        fault(true, "save " + "[".repeat(8) + "1" + "]".repeat(8), -1);
+        fault(true, "save " + "[".repeat(9) + "1" + "]".repeat(9), 13);
+        fault(true, "ride 0 to " + "[".repeat(8) + "1" + "]".repeat(8), -1);
+        fault(true, "ride 0 to " + "[".repeat(9) + "1" + "]".repeat(9), 18);
         fault(false, "bars if " + "(".repeat(8) + "1=1" + ")".repeat(8), -1);
         fault(false, "bars if " + "(".repeat(9) + "1=1" + ")".repeat(9), 16);
         fault(false, "bars if " + "(".repeat(4) + "[[[[1]]]]=1" + ")".repeat(4) + " or " + "(".repeat(8) + "1=1" + ")".repeat(8), -1);

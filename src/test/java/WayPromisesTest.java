@@ -4,6 +4,7 @@ public final class WayPromisesTest {
 
     public static void main(String[] args) {
         cheapest();
+        bySeven();
         firstOfTheCheapest();
         byAtMost();
         fewestAndWays();
@@ -54,6 +55,22 @@ public final class WayPromisesTest {
         x.train(Due.stops(0, 3, 5), 1, 8);
         D.due("only where it stops", x.cheapest(2, 0, 5, -1), 65);
         D.due("where it does not stop", x.cheapest(2, 0, 4, -1), -1);
+    }
+
+    private static void bySeven() {
+        D.promise("22, 26, 28, 34");
+        SplitFares x = new SplitFares();
+        x.train(Due.stops(0, 1, 2, 3, 4, 5, 7), 1, 8);
+        x.train(255, 1, 8);
+        x.train(255, 0, 8);
+        Due.force(x, "costs far * far; bars if return = 1");
+        D.due("cheapest(1, 0, 7, -1)", x.cheapest(1, 0, 7, -1), 7);
+        D.due("cheapest(1, 0, 7, 6)", x.cheapest(1, 0, 7, 6), 7);
+        D.due("cheapest(1, 0, 7, 7)", x.cheapest(1, 0, 7, 7), -1);
+        D.due("bestTrain(0, 7)", x.bestTrain(0, 7), 1);
+        D.due("thereAndBack(1, 2, 0, 7)", x.thereAndBack(1, 2, 0, 7), 14);
+        x.told(7, 7);
+        D.due("canBe()", x.canBe(), 2);
     }
 
     private static void firstOfTheCheapest() {
