@@ -55,9 +55,13 @@ final class Due {
         return x.orders();
     }
 
-    /** A new LAW of this text is in FORCE then. */
+    /** A new LAW of this text is in FORCE then; it must be one, or the test is wrong. */
     static void force(SplitFares x, String text) {
-        x.force(law(x, text));
+        int law = law(x, text);
+        if (law < 0) {
+            throw new IllegalStateException("no LAW: " + text);
+        }
+        x.force(law);
     }
 
     static int stops(int... stations) {
