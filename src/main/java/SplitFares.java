@@ -578,13 +578,18 @@ public final class SplitFares {
         }
     }
 
+    private int answerOf(int train, int station) {
+        int i = train * STATIONS + station;
+        return i >= 0 && i < answers.length ? answers[i] : NONE;
+    }
+
     private int trainsThatFit() {
         Office office = desk.office;
         int bits = 0;
         for (int t = 0; t < MOST_TRAINS && office.hasTrain(t); t++) {
             boolean fits = true;
             for (int i = 0; i < MOST_TOLD && i < office.toldCount; i++) {
-                fits = fits && answers[t * STATIONS + office.toldStations[i]] == office.toldCosts[i];
+                fits = fits && answerOf(t, office.toldStations[i]) == office.toldCosts[i];
             }
             if (fits) {
                 bits |= 1 << t;
@@ -600,7 +605,7 @@ public final class SplitFares {
             int alike = 0;
             for (int u = 0; u < MOST_TRAINS; u++) {
                 boolean both = (trains >> t & 1) == 1 && (trains >> u & 1) == 1;
-                if (both && answers[t * STATIONS + station] == answers[u * STATIONS + station]) {
+                if (both && answerOf(t, station) == answerOf(u, station)) {
                     alike++;
                 }
             }
@@ -1078,6 +1083,11 @@ public final class SplitFares {
             return office.costOf(RETURN, from, to);
         }
 
+        private int legOf(int from, int to) {
+            int i = from * STATIONS + to;
+            return i >= 0 && i < LEGS ? legs[i] : NONE;
+        }
+
         /** What a WAY of so many legs at most costs at least; NONE without one. */
         int least(int from, int to, int most) {
             if (!isLeg(from, to)) {
@@ -1100,7 +1110,7 @@ public final class SplitFares {
         private int leastByOneMore(int from) {
             int found = best[from];
             for (int next = 0; next < STATIONS; next++) {
-                int leg = legs[from * STATIONS + next];
+                int leg = legOf(from, next);
                 if (leg >= 0 && best[next] >= 0 && (found < 0 || leg + best[next] < found)) {
                     found = leg + best[next];
                 }
@@ -1116,7 +1126,7 @@ public final class SplitFares {
             int turn = to > from ? 1 : -1;
             for (int n = 1; n <= Math.abs(to - from); n++) {
                 int next = from + n * turn;
-                int leg = legs[from * STATIONS + next];
+                int leg = legOf(from, next);
                 if (leg >= 0 && best[next] >= 0 && leg + best[next] == best[from]) {
                     return next;
                 }
@@ -1152,7 +1162,7 @@ public final class SplitFares {
                 int s = to - n * turn;
                 for (int m = 0; m < n; m++) {
                     int next = to - m * turn;
-                    bestNow[s] += legs[s * STATIONS + next] >= 0 ? bestNow[next] : 0;
+                    bestNow[s] += legOf(s, next) >= 0 ? bestNow[next] : 0;
                 }
             }
             return bestNow[from];
@@ -1163,7 +1173,7 @@ public final class SplitFares {
             if (cost < 0) {
                 return NONE;
             }
-            int direct = legs[from * STATIONS + to];
+            int direct = legOf(from, to);
             return direct < 0 ? 0 : direct - cost;
         }
     }
@@ -1200,29 +1210,33 @@ public final class SplitFares {
         private final int[] stops = new int[ROOM_ON_TAPE + 1];
         private int size = 0;
         private int now = 0;
+        // of the TOKEN to be read
+        private int kind = AT_END;
+        private int start = 0;
+        private int stop = 0;
 
         void scan(Tape tape) {
             int length = Math.min(tape.length, ROOM_ON_TAPE);
             size = 0;
-            now = 0;
             int before = BLANK;
             for (int i = 0; i < length; i++) {
                 text[i] = tape.at(i);
-                int kind = kindOf(text[i]);
-                boolean goesOn = kind == before && (kind == LETTERS || kind == DIGITS);
-                if (kind != BLANK && !goesOn) {
-                    kinds[size] = kind;
+                int found = kindOf(text[i]);
+                boolean goesOn = found == before && (found == LETTERS || found == DIGITS);
+                if (found != BLANK && !goesOn && size < ROOM_ON_TAPE) {
+                    kinds[size] = found;
                     starts[size] = i;
                     size++;
                 }
-                if (kind != BLANK) {
+                if (found != BLANK && size > 0) {
                     stops[size - 1] = i + 1;
                 }
-                before = kind;
+                before = found;
             }
             kinds[size] = AT_END;
             starts[size] = length;
             stops[size] = length;
+            look(0);
         }
 
         private static int kindOf(int b) {
@@ -1235,31 +1249,41 @@ public final class SplitFares {
             return b == ' ' ? BLANK : SIGN;
         }
 
-        void step() {
-            if (now < size) {
-                now++;
+        private void look(int token) {
+            if (token >= 0 && token <= size && token < kinds.length) {
+                now = token;
+                kind = kinds[token];
+                start = starts[token];
+                stop = stops[token];
             }
         }
 
-        int start() {
-            return starts[now];
+        void step() {
+            look(now + 1);
+        }
+
+        int place() {
+            return start;
+        }
+
+        private int byteAt(int i) {
+            return i >= 0 && i < ROOM_ON_TAPE ? text[i] : 0;
         }
 
         boolean isEnd() {
-            return kinds[now] == AT_END;
+            return kind == AT_END;
         }
 
         boolean isSign(char sign) {
-            return kinds[now] == SIGN && text[starts[now]] == sign;
+            return kind == SIGN && byteAt(start) == sign;
         }
 
         boolean isWord(String word) {
-            int start = starts[now];
-            if (kinds[now] != LETTERS || stops[now] - start != word.length()) {
+            if (kind != LETTERS || stop - start != word.length()) {
                 return false;
             }
             for (int i = 0; i < word.length(); i++) {
-                if (text[start + i] != word.charAt(i)) {
+                if (byteAt(start + i) != word.charAt(i)) {
                     return false;
                 }
             }
@@ -1268,12 +1292,12 @@ public final class SplitFares {
 
         /** What a row of digits tells (TOO_HIGH, if it is that or more); NONE without digits. */
         int number() {
-            if (kinds[now] != DIGITS) {
+            if (kind != DIGITS) {
                 return NONE;
             }
             int value = 0;
-            for (int i = starts[now]; i < stops[now]; i++) {
-                value = Math.min(TOO_HIGH, value * 10 + text[i] - '0');
+            for (int i = start; i < stop; i++) {
+                value = Math.min(TOO_HIGH, value * 10 + byteAt(i) - '0');
             }
             return value;
         }
@@ -1291,7 +1315,7 @@ public final class SplitFares {
         private int parts = 0;
 
         int place() {
-            return tokens.start();
+            return tokens.place();
         }
 
         boolean readText(Tape tape, boolean asOrders) {

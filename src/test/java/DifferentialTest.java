@@ -1,15 +1,19 @@
 import java.util.Random;
 
-/** Random runs of calls, each answer held against the Model's; the seeds are fixed. */
+/** Random runs of at most 512 calls, each answer held against the Model's; the seeds are fixed. */
 public final class DifferentialTest {
-    private static final int RUNS = 1200;
-    private static final int CALLS = 500;
+    private static final int RUNS = 3000;
+    private static final int MOST_CALLS = 512;
+    // a TEXT of 400 bytes, what it becomes, what is asked behind it
+    private static final int DEAREST_STEP = 28;
+    private static final int ASKED_AT_THE_END = 40;
 
     private final Random dice;
     private final SplitFares x = new SplitFares();
     private final Model m = new Model();
     private final Texts texts;
     private String call = "";
+    private int calls = 0;
 
     private DifferentialTest(long seed) {
         dice = new Random(seed);
@@ -40,34 +44,55 @@ public final class DifferentialTest {
         }
         x.image(1);
         m.image(1);
-        for (int n = 0; n < CALLS; n++) {
+        calls = trains + 1;
+        for (int n = 0; calls + DEAREST_STEP + ASKED_AT_THE_END <= MOST_CALLS; n++) {
             long[] both = step();
             if (both[0] != both[1]) {
-                return "call " + n + " " + call + " answered " + both[0] + ", the Model " + both[1];
+                return "step " + n + " " + call + " answered " + both[0] + ", the Model " + both[1];
             }
-            if (x.status() != m.status()) {
-                return "call " + n + " " + call + ": status() " + x.status() + ", the Model " + m.status();
+            String wrong = asked();
+            if (wrong != null) {
+                return "step " + n + " " + call + ": " + wrong;
             }
-            for (int what = -1; what <= 17; what++) {
-                if (x.count(what) != m.count(what)) {
-                    return "call " + n + " " + call + ": count(" + what + ") " + x.count(what) + ", the Model " + m.count(what);
-                }
-            }
-            if (x.fault() != m.fault() || x.stopped() != m.stopped() || x.delays() != m.delays()) {
-                return "call " + n + " " + call + ": fault(), stopped(), delays() " + x.fault() + " " + x.stopped() + " " + x.delays()
-                    + ", the Model " + m.fault() + " " + m.stopped() + " " + m.delays();
-            }
+            calls += 3;
         }
-        for (int sort = 0; sort < 3; sort++) {
-            for (int p = 0; p < 8; p++) {
-                for (int q = 0; q < 8; q++) {
-                    if (x.held(sort, p, q) != m.held(sort, p, q)) {
-                        return "in the end held(" + sort + ", " + p + ", " + q + ") differs";
-                    }
-                }
+        for (int n = 0; n < ASKED_AT_THE_END; n++) {
+            String wrong = n < 17 ? told("count", n, x.count(n), m.count(n)) : heldAlike();
+            if (wrong != null) {
+                return "in the end " + wrong;
             }
         }
         return null;
+    }
+
+    /** Two questions behind each step, what differs. */
+    private String asked() {
+        String status = told("status", 0, x.status(), m.status());
+        if (status != null) {
+            return status;
+        }
+        int r = dice.nextInt(24);
+        switch (r) {
+            case 17: return told("fault", 0, x.fault(), m.fault());
+            case 18: return told("stopped", 0, x.stopped(), m.stopped());
+            case 19: return told("delays", 0, x.delays(), m.delays());
+            case 20:
+            case 21:
+            case 22:
+            case 23: return heldAlike();
+            default: return told("count", r, x.count(r), m.count(r));
+        }
+    }
+
+    private String heldAlike() {
+        int sort = dice.nextInt(3);
+        int p = dice.nextInt(8);
+        int q = dice.nextInt(8);
+        return told("held " + p + " " + q, sort, x.held(sort, p, q), m.held(sort, p, q));
+    }
+
+    private static String told(String what, int n, int got, int due) {
+        return got == due ? null : what + " " + n + " is " + got + ", the Model's " + due;
     }
 
     /** Mostly 0 .. n - 1, now and then something beyond. */
@@ -86,16 +111,16 @@ public final class DifferentialTest {
     }
 
     private int aTrain() {
-        return pick(Math.max(1, x.count(0)));
+        return pick(Math.max(1, m.count(0)));
     }
 
     /** Often a TICKET that a TRAIN from AT can use, so that rides come about. */
     private int[] aLeg() {
-        int from = dice.nextInt(3) > 0 ? x.count(1) : pick(8);
+        int from = dice.nextInt(3) > 0 ? m.count(1) : pick(8);
         int to = pick(8);
         int t = aTrain();
-        int stops = x.of(t, 0);
-        for (int i = 0; i < 6 && dice.nextInt(4) > 0 && (to < 0 || to > 7 || (stops >> to & 1) == 0 || (to > from) != (x.of(t, 1) == 1)); i++) {
+        int stops = m.of(t, 0);
+        for (int i = 0; i < 6 && dice.nextInt(4) > 0 && (to < 0 || to > 7 || (stops >> to & 1) == 0 || (to > from) != (m.of(t, 1) == 1)); i++) {
             to = dice.nextInt(8);
         }
         return new int[] {from, to};
@@ -106,7 +131,9 @@ public final class DifferentialTest {
         while (b.length() % 20 != 0) {
             b.append((char) dice.nextInt(256));
         }
+        calls++;
         for (int i = 0; i < b.length(); i += 20) {
+            calls++;
             int[] n = new int[5];
             for (int j = 0; j < 20; j++) {
                 n[j / 4] = n[j / 4] << 8 | b.charAt(i + j) & 255;
@@ -121,6 +148,7 @@ public final class DifferentialTest {
     }
 
     private long[] emptyTape() {
+        calls++;
         return new long[] {x.end(0), m.end(0)};
     }
 
@@ -197,7 +225,7 @@ public final class DifferentialTest {
 
     private long[] stepText() {
         emptyTape();
-        if (x.count(5) == 6 && dice.nextInt(4) == 0) {
+        if (m.count(5) == 6 && dice.nextInt(4) == 0) {
             call = "back(1)";
             return new long[] {x.back(1), m.back(1)};
         }
@@ -227,6 +255,7 @@ public final class DifferentialTest {
         if (a != b || orders || a < 0 || dice.nextInt(4) == 0) {
             return new long[] {a, b};
         }
+        calls++;
         return new long[] {x.force((int) a), m.force((int) a)};
     }
 
@@ -245,7 +274,7 @@ public final class DifferentialTest {
                 return new long[] {x.terms(what, value), m.terms(what, value)};
             case 2:
             case 3:
-                int law = pick(Math.max(1, x.count(5)));
+                int law = pick(Math.max(1, m.count(5)));
                 call = "force(" + law + ")";
                 return new long[] {x.force(law), m.force(law)};
             case 4:
@@ -283,10 +312,10 @@ public final class DifferentialTest {
 
     /** Often what is so of some TRAIN. */
     private int tellable(int station) {
-        if (dice.nextInt(4) == 0 || x.count(0) == 0) {
+        if (dice.nextInt(4) == 0 || m.count(0) == 0) {
             return dice.nextInt(2) == 0 ? -1 : pick(100_000);
         }
-        return x.cheapest(dice.nextInt(x.count(0)), x.count(1), station, -1);
+        return m.cheapest(dice.nextInt(m.count(0)), m.count(1), station, -1);
     }
 
     private long[] stepWays() {
@@ -367,7 +396,7 @@ public final class DifferentialTest {
                 call = "few(" + k + ", " + n + ")";
                 return new long[] {x.few(k, n), m.few(k, n)};
             case 8:
-                int law = pick(Math.max(1, x.count(5)));
+                int law = pick(Math.max(1, m.count(5)));
                 call = "compare(" + law + ", " + leg[0] + ", " + leg[1] + ")";
                 return new long[] {x.compare(law, leg[0], leg[1]), m.compare(law, leg[0], leg[1])};
             default:

@@ -368,11 +368,12 @@ public final class WayPromisesTest {
         D.due("few(1, 100)", x.few(1, 100), -1);
         Model m = new Model();
         for (int checks = 0; checks <= 10; checks++) {
-            x.terms(1, checks);
+            SplitFares y = new SplitFares();
+            y.terms(1, checks);
             m.terms(1, checks);
             for (int k = 1; k <= 20; k += 3) {
                 for (int n = 0; n < 100; n += 11) {
-                    D.due("few(" + k + ", " + n + ") by " + checks, x.few(k, n), m.few(k, n));
+                    D.due("few(" + k + ", " + n + ") by " + checks, y.few(k, n), m.few(k, n));
                 }
             }
         }
