@@ -20,12 +20,17 @@ public final class BoundsOfTermsTest {
         nothingToUndo();
         leavesWhatCanBeUndone();
         ofSoManyAtMost();
+        forNothing();
+        firstByItsStations();
         thereAndBack();
+        thereAndBackForNothing();
+        thereAndBackBySeven();
         saved();
         mostSaved();
         purseEnd();
         told();
         ask();
+        askAlike();
         few();
         monthsBySeed();
         monthsByDay();
@@ -472,6 +477,89 @@ public final class BoundsOfTermsTest {
         D.due("nothing, there and back", x.thereAndBack(0, 1, 0, 7), 0);
     }
 
+    private static void forNothing() {
+        D.promise("22 to 29: SINGLES that COST 0");
+        SplitFares x = Offices.line("costs 0");
+        for (int p = 0; p < 8; p++) {
+            for (int q = p + 1; q < 8; q++) {
+                D.due("cheapest", x.cheapest(0, p, q, -1), 0);
+                D.due("by all STATIONS", x.cheapest(0, p, q, 0), p + 1);
+                D.due("byAtMost", x.byAtMost(1, q, p, 1), 0);
+                D.due("fewest", x.fewest(0, p, q), 1);
+                D.due("ways", x.ways(1, q, p), 1 << q - p - 1);
+                D.due("saved", x.saved(0, p, q), 0);
+                D.due("bestTrain", x.bestTrain(q, p), 1);
+            }
+        }
+        D.due("mostSaved", x.mostSaved(0, 0), 0);
+        D.due("from", x.mostSaved(0, 1), 0);
+        D.due("to", x.mostSaved(0, 2), 1);
+        Due.force(x, "costs 0; bars if far > 1");
+        D.due("fewest by seven", x.fewest(0, 0, 7), 7);
+        D.due("byAtMost six", x.byAtMost(0, 0, 7, 6), -1);
+        D.due("byAtMost seven", x.byAtMost(0, 0, 7, 7), 0);
+        D.due("ways", x.ways(0, 0, 7), 1);
+        D.due("saved: it is BARRED", x.saved(0, 0, 7), 0);
+    }
+
+    private static void firstByItsStations() {
+        D.promise("22: no WAY leads by a leg that is BARRED, to where none goes on");
+        SplitFares x = Offices.line("costs 5; costs 6 if from = 1 and to = 7; bars if from = 0 and to = 1");
+        D.due("cost", x.cheapest(0, 0, 7, -1), 5);
+        D.due("1 lies a penny off, BARRED", x.cheapest(0, 0, 7, 0), 7);
+        Due.force(x, "costs 5; costs 6 if to < 7; bars if from > 0");
+        D.due("cost", x.cheapest(0, 0, 7, -1), 5);
+        D.due("none goes on from the others, a penny more", x.cheapest(0, 0, 7, 0), 7);
+        Due.force(x, "costs 5; costs 1 if to < 7; costs 0 if to = 7 and from > 0; bars if from = 1; bars if from > 1 and to < 7");
+        D.due("cost", x.cheapest(0, 0, 7, -1), 1);
+        D.due("not by 1, by 2", x.cheapest(0, 0, 7, 0), 2);
+        D.promise("31: nor by a TICKET to where none leads on");
+        SplitFares y = Offices.line();
+        y.buy(0, 0, 1);
+        y.buy(0, 0, 2);
+        y.buy(0, 1, 3);
+        y.buy(0, 0, 4);
+        y.buy(0, 4, 7);
+        D.due("used", y.used(0, 7, -1), 2);
+        D.due("by 4", y.used(0, 7, 0), 4);
+        D.due("ride", y.ride(0, 7), 2);
+        D.due("the others are held", y.count(3), 3);
+    }
+
+    private static void thereAndBackForNothing() {
+        D.promise("26: SINGLES that COST 0, RETURNS that COST 0");
+        SplitFares x = Offices.line("costs 0 if return = 0; costs 5 if return = 1");
+        D.due("SINGLES for nothing", x.thereAndBack(0, 1, 0, 7), 0);
+        Due.force(x, "costs 0; bars if return = 1");
+        D.due("SINGLES for nothing, no RETURNS", x.thereAndBack(0, 1, 0, 7), 0);
+        Due.force(x, "costs 0 if from < to; bars if return = 1");
+        D.due("there for nothing", x.thereAndBack(0, 1, 0, 7), 70);
+        Due.force(x, "costs 0 if from > to; bars if return = 1");
+        D.due("back for nothing", x.thereAndBack(0, 1, 0, 7), 70);
+        Due.force(x, "costs 0; bars if return = 0");
+        D.due("RETURNS for nothing", x.thereAndBack(0, 1, 0, 7), 0);
+        Due.force(x, "costs 0; bars if return = 0 and hour = 17");
+        D.due("RETURNS for nothing, SINGLES there", x.thereAndBack(0, 1, 0, 7), 0);
+        SplitFares y = Offices.line("costs 0; bars if return = 1; bars if return = 0 and hour = 17");
+        D.due("SINGLES there alone", y.thereAndBack(0, 1, 0, 7), -1);
+    }
+
+    private static void thereAndBackBySeven() {
+        D.promise("26: seven legs on the one, one on the other");
+        SplitFares x = Offices.line("bars if far > 1 and hour = 8");
+        x.train(Due.stops(0, 7), 0, 9);
+        D.due("seven there, one back", x.thereAndBack(0, 2, 0, 7), 140);
+        x.train(Due.stops(0, 7), 1, 9);
+        Due.force(x, "bars if far > 1 and hour = 17");
+        D.due("one there, seven back", x.thereAndBack(3, 1, 0, 7), 140);
+        Due.force(x, "bars if far > 1 and hour > 7");
+        D.due("RETURNS for each leg", x.thereAndBack(0, 1, 0, 7), 105);
+        Due.force(x, "bars if far > 1 or return = 1");
+        D.due("seven there, seven back", x.thereAndBack(0, 1, 0, 7), 140);
+        D.due("none by such as do not STOP", x.thereAndBack(0, 2, 0, 7), -1);
+        D.due("none by such as do not STOP", x.thereAndBack(3, 1, 0, 7), -1);
+    }
+
     private static void thereAndBack() {
         D.promise("26: there is none");
         SplitFares x = Offices.line("bars if hour = 8 and return = 0; bars if hour = 17 and return = 1");
@@ -610,6 +698,34 @@ public final class BoundsOfTermsTest {
         D.due("none", y.ask(0), -1);
         D.due("none", y.ask(1), -1);
         D.due("none", y.ask(2), -1);
+    }
+
+    private static void askAlike() {
+        D.promise("35: TRAINS alike, one to six; of some that can't be");
+        for (int n = 1; n <= 6; n++) {
+            SplitFares x = Offices.trains(n);
+            D.due("the lowest STATION of " + n, x.ask(0), 0);
+            D.due("all " + n + " are left", x.ask(1), n);
+            x.buy(0, 0, 7);
+            x.ride(0, 7);
+            D.due("the lowest STATION, from 7", x.ask(0), 0);
+            D.due("all " + n + " are left", x.ask(1), n);
+        }
+        SplitFares x = new SplitFares();
+        for (int t = 0; t < 6; t++) {
+            x.train(t % 2 == 0 ? 255 : Due.stops(0, 7), t % 2 == 0 ? 0 : 1, t);
+        }
+        x.buy(0, 0, 7);
+        x.ride(1, 7);
+        x.told(1, 60);
+        D.due("every other one can be", x.canBe(), 21);
+        D.due("they are alike: the lowest STATION", x.ask(0), 0);
+        D.due("three are left", x.ask(1), 3);
+        x.forget();
+        x.told(1, -1);
+        D.due("the others can be", x.canBe(), 42);
+        D.due("they are alike: the lowest STATION", x.ask(0), 0);
+        D.due("three are left", x.ask(1), 3);
     }
 
     private static void few() {

@@ -19,6 +19,9 @@ public final class BoundsOfTextsTest {
         times();
         timesAndDays();
         trainOfStops();
+        wordsOfLaws();
+        wordsOfOrders();
+        shorterBehindLonger();
         faults();
         faultIsKept();
         sumsToABillion();
@@ -455,6 +458,76 @@ public final class BoundsOfTextsTest {
         x.train(255, 1, 0);
         D.due("2, 8, -1", Due.orders(x, "save 100 * stops 0 + 10 * stops 1 + stops 2"), 1);
         D.due("count(2)", x.count(2), 1000 + 200 + 80 - 1);
+    }
+
+    // ---- words
+
+    /** Another letter at each place of each word of a good TEXT, one too few, one too many: a FAULT there. */
+    private static void eachLetter(String text, boolean asOrders) {
+        for (int i = 0; i < text.length(); i++) {
+            if (Character.isLetter(text.charAt(i))) {
+                int start = i;
+                while (start > 0 && Character.isLetter(text.charAt(start - 1))) {
+                    start--;
+                }
+                String[] spoilt = {text.substring(0, i) + "q" + text.substring(i + 1), text.substring(0, i) + "q" + text.substring(i),
+                    text.substring(0, i + 1) + "q" + text.substring(i + 1), text.substring(0, i) + "Q" + text.substring(i + 1),
+                    text.substring(0, i) + text.substring(i + 1)};
+                for (int n = 0; n < spoilt.length; n++) {
+                    // a byte that is no letter ends a word, of which the first letters alone are none
+                    SplitFares x = Offices.line();
+                    D.due(spoilt[n], asOrders ? Due.orders(x, spoilt[n]) : Due.law(x, spoilt[n]), -6);
+                    D.due("fault() of " + spoilt[n], x.fault(), start);
+                }
+            }
+        }
+    }
+
+    private static void wordsOfLaws() {
+        D.promise("II, 12: words, each by all its letters");
+        String text = "costs from + to * far - return if hour = day or mood = 1 and not 1 = 2; bars";
+        law(text, -1);
+        eachLetter(text, false);
+        String[] others = {"done", "latest", "at", "purse", "held", "stops", "times", "if", "or", "and", "not", "costs", "bars", "single", "ride", "save", "pass"};
+        for (String word : others) {
+            law("costs " + word, 6);
+            law("costs [" + word, 7);
+            law("bars if 1 < " + word, 12);
+        }
+    }
+
+    private static void wordsOfOrders() {
+        D.promise("II, 13: words, each by all its letters");
+        String text = "single day to 1; return done + 1 to latest + 1 if 1 = 2 or 1 = 1 and not 1 = 1; save at + purse - held times 2; save stops 0; ride 0 to 1; pass";
+        SplitFares x = Offices.line();
+        D.due(text, Due.orders(x, text), 6);
+        eachLetter(text, true);
+        String[] others = {"from", "to", "far", "return", "hour", "mood", "times", "if", "or", "and", "not", "costs", "bars", "single", "ride", "save", "pass"};
+        for (String word : others) {
+            orders("save " + word, 5, 0);
+            orders("save [" + word, 6, 0);
+            orders("pass if 1 < " + word, 12, 0);
+        }
+    }
+
+    private static void shorterBehindLonger() {
+        D.promise("12, 13: of a TEXT nothing is left in the next one");
+        SplitFares x = Offices.line();
+        Due.law(x, "costs 1; costs 2; bars; costs 3; bars if far > 0");
+        Due.force(x, "costs 5");
+        D.due("price", x.price(0, 0, 1), 5);
+        D.due("isBarred", x.isBarred(0, 0, 0, 1), 0);
+        Due.law(x, "costs 1; bars; costs 2 if");
+        Due.force(x, "bars if 1 = 2");
+        D.due("price", x.price(0, 0, 1), 10);
+        D.due("isBarred", x.isBarred(0, 0, 0, 1), 0);
+        Due.orders(x, "save 1; save 1 times 20; pass; save");
+        Due.orders(x, "pass; pass times 20; pass if 1 = 2; save 0");
+        D.due("ORDERS", Due.orders(x, "save 3"), 1);
+        D.due("count(2)", x.count(2), 1003);
+        D.due("count(14)", x.count(14), 0);
+        D.due("TIMES no more", Due.orders(x, "save 1; save 1"), 2);
+        D.due("the LAW is as it was", x.compare(1, 0, 1), 5);
     }
 
     // ---- FAULT
