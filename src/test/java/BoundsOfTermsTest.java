@@ -35,6 +35,7 @@ public final class BoundsOfTermsTest {
         monthsBySeed();
         monthsByDay();
         monthsAsIfBought();
+        monthsByLaw();
         rows();
         rowsWithoutRoom();
         images();
@@ -826,6 +827,44 @@ public final class BoundsOfTermsTest {
         D.due("AT", x.drawn(1), 0);
     }
 
+    private static void monthsByLaw() {
+        D.promise("IV: laws asked with the DAY that the MONTHS have reached; HALVES lapse in them");
+        SplitFares x = Offices.trains(1);
+        Due.force(x, "costs 100 * [day + 1]");
+        // STATIONS, kinds by SEED 4: 6 1, 1 3, 7 0, 3 0, 1 2, 3 1, 6 2, 3 1, 6 3
+        int[] used = {0, 0, 0, 0, 0, 0, 1, 1, 1};
+        int[] purse = {900, 900, 700, 500, 500, 300, 300, 100, 100};
+        int[] at = {0, 0, 0, 0, 0, 0, 6, 6, 6};
+        int[] held = {1, 1, 2, 3, 3, 4, 4, 5, 4};
+        int[] day = {0, 1, 1, 1, 1, 1, 1, 1, 2};
+        for (int n = 1; n <= 9; n++) {
+            D.due("months(4, " + n + ")", x.months(4, n), used[n - 1]);
+            D.due("PURSE behind " + n, x.drawn(0), purse[n - 1]);
+            D.due("AT behind " + n, x.drawn(1), at[n - 1]);
+            D.due("held behind " + n, x.drawn(2), held[n - 1]);
+            D.due("DAY behind " + n, x.drawn(3), day[n - 1]);
+        }
+        Due.force(x, "costs 100; bars if day = 1");
+        D.due("BARRED on the first DAY", x.months(4, 9), 0);
+        D.due("AT", x.drawn(1), 0);
+        Due.force(x, "costs 100; bars if day = 0");
+        D.due("BARRED on DAY 0", x.months(4, 9), 1);
+        D.due("DAY as it is", x.count(14), 0);
+        D.promise("IV: TICKETS held, PURSE, AT, DAY as they are at first");
+        SplitFares y = Offices.line();
+        y.buy(0, 0, 6);
+        y.buy(1, 6, 3);
+        y.ride(0, 6);
+        y.save(9);
+        y.terms(0, 40);
+        // STATIONS, kinds by SEED 3: TRAINS are drawn of two
+        D.due("months(3, 1)", y.months(3, 1), 0);
+        D.due("a SINGLE from 6 to 0", y.drawn(0), 1000 - 60 - 45 + 9 - 60);
+        D.due("AT", y.drawn(1), 6);
+        D.due("held", y.drawn(2), 2);
+        D.due("DAY", y.drawn(3), 40);
+    }
+
     private static void rows() {
         D.promise("IV, 10: by threes; one within which the TAPE ends");
         String train = "\u0081\u0001\u0017";
@@ -927,6 +966,16 @@ public final class BoundsOfTermsTest {
         D.due("force(0)", x.force(0), -2);
         D.due("canBe()", x.canBe(), 0);
         D.due("price", x.price(0, 0, 7), 70);
+        for (int n = 0; n < 6; n++) {
+            x.train(3 + n * 3, 1 - n % 2, n);
+            Due.law(x, "costs 100 + " + n);
+            x.told(n, -1);
+        }
+        x.force(3);
+        x.terms(0, 7);
+        x.terms(1, 7);
+        x.terms(2, 7);
+        x.buy(0, 7, 6);
         D.due("to full", x.back(1), 0);
         counts(x, 6, 0, 1000 + 9 * 9999 - 45, 9, 6, 6, 0, 0, 0, 1, 0, 0, 0, 5, 999, 10, 9);
         for (int n = 0; n < 6; n++) {
@@ -936,6 +985,8 @@ public final class BoundsOfTermsTest {
             D.due("compare", x.compare(n, 0, 7), n);
         }
         D.due("held(1, 7, 6)", x.held(1, 7, 6), 9);
+        D.due("held(0, 7, 6)", x.held(0, 7, 6), 0);
+        D.due("canBe() by what was told of 2 .. 7", x.canBe(), 0);
         D.due("a seventh TRAIN", x.train(3, 1, 0), -5);
         D.due("a seventh LAW", Due.law(x, "bars"), -5);
         D.due("a seventh TOLD", x.told(0, 0), -5);
