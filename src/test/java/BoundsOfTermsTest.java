@@ -775,6 +775,19 @@ public final class BoundsOfTermsTest {
         D.due("a DAY", x.months(1_000_000, 3), 0);
         D.due("DAY", x.drawn(3), 1);
         D.due("nothing was done", x.count(2) + x.count(3) + x.count(14) + x.count(6), 1000);
+        D.promise("IV: a DRAW of TRAINS, one to six");
+        // the third DRAW of them by SEED 0 is 671,873
+        int[] drawn = {0, 1, 2, 1, 3, 5};
+        for (int trains = 1; trains <= 6; trains++) {
+            SplitFares alone = new SplitFares();
+            SplitFares others = new SplitFares();
+            for (int t = 0; t < trains; t++) {
+                alone.train(255, t == drawn[trains - 1] ? 1 : 0, t);
+                others.train(255, t == drawn[trains - 1] ? 0 : 1, t);
+            }
+            D.due("of " + trains + ", that goes to 1", alone.months(0, 3), 1);
+            D.due("of " + trains + ", that does not", others.months(0, 3), 0);
+        }
         D.promise("38: n 60 and 59 are as many DRAWS");
         for (int n = 59; n <= 60; n++) {
             Model m = new Model();
