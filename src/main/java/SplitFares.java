@@ -479,10 +479,12 @@ public final class SplitFares {
         if (k < 0 || k >= IMAGES) {
             return refused(BAD_NUMBER);
         }
-        if (images[k] == null) {
-            images[k] = new Office();
+        Office kept = images[k];
+        if (kept == null) {
+            kept = new Office();
+            images[k] = kept;
         }
-        images[k].copyFrom(desk.office);
+        kept.copyFrom(desk.office);
         return accepted(0);
     }
 
@@ -490,10 +492,11 @@ public final class SplitFares {
         if (k < 0 || k >= IMAGES) {
             return refused(BAD_NUMBER);
         }
-        if (images[k] == null) {
+        Office kept = images[k];
+        if (kept == null) {
             return refused(NO_SUCH);
         }
-        desk.office.copyFrom(images[k]);
+        desk.office.copyFrom(kept);
         desk.log.clear();
         return accepted(0);
     }
@@ -832,7 +835,11 @@ public final class SplitFares {
 
         void push(int kind, Pocket before) {
             int i = Math.floorMod(first + size, UNDOABLE);
-            pockets[i].copyFrom(before);
+            Pocket kept = pockets[i];
+            if (kept == null) {
+                return;
+            }
+            kept.copyFrom(before);
             kinds[i] = kind;
             if (size < UNDOABLE) {
                 size++;
@@ -847,13 +854,21 @@ public final class SplitFares {
             }
             size--;
             int i = Math.floorMod(first + size, UNDOABLE);
-            pocket.copyFrom(pockets[i]);
+            Pocket kept = pockets[i];
+            if (kept == null) {
+                return NONE;
+            }
+            pocket.copyFrom(kept);
             return kinds[i];
         }
 
         void copyFrom(Log other) {
             for (int i = 0; i < UNDOABLE; i++) {
-                pockets[i].copyFrom(other.pockets[i]);
+                Pocket mine = pockets[i];
+                Pocket its = other.pockets[i];
+                if (mine != null && its != null) {
+                    mine.copyFrom(its);
+                }
                 kinds[i] = other.kinds[i];
             }
             first = other.first;

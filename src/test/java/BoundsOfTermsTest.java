@@ -10,6 +10,7 @@ public final class BoundsOfTermsTest {
         purseToNothing();
         purseToTheBrim();
         nineOfEach();
+        nineOfAll();
         nineHalves();
         toAtItself();
         usedUp();
@@ -31,6 +32,7 @@ public final class BoundsOfTermsTest {
         told();
         ask();
         askAlike();
+        askWhoIsAlike();
         few();
         monthsBySeed();
         monthsByDay();
@@ -40,6 +42,7 @@ public final class BoundsOfTermsTest {
         rowsWithoutRoom();
         images();
         imagesOfAll();
+        imagesOfTold();
         countsOfRefusals();
         status();
         D.end();
@@ -171,6 +174,48 @@ public final class BoundsOfTermsTest {
         D.due("undo() makes room", x.undo(), 0);
         D.due("the ninth again", x.buy(1, 1, 0), left - 18);
         D.due("a tenth", x.buy(1, 1, 0), -3);
+    }
+
+    private static void nineOfAll() {
+        D.promise("I, 39, 42: nine SINGLES, nine RETURNS from each STATION to each other one, nine HALVES");
+        SplitFares x = Offices.line("costs 0");
+        StringBuilder text = new StringBuilder();
+        int clauses = 0;
+        for (int i = 0; i < 112; i++) {
+            int from = i % 56 / 7;
+            int to = i % 7 < from ? i % 7 : i % 7 + 1;
+            text.append(clauses == 0 ? "" : ";").append(i < 56 ? "single " : "return ").append(from).append(" to ").append(to).append(" times 9");
+            clauses++;
+            if (clauses == 12 || i == 111) {
+                D.due("orders", Due.orders(x, text.toString()), 9 * clauses);
+                D.due("count(3)", x.count(3), (i + 1) * 9);
+                text.setLength(0);
+                clauses = 0;
+            }
+        }
+        D.due("count(3)", x.count(3), 1008);
+        for (int i = 0; i < 64; i++) {
+            D.due("held SINGLES", x.held(0, i / 8, i % 8), i % 9 == 0 ? -1 : 9);
+            D.due("held RETURNS", x.held(1, i / 8, i % 8), i % 9 == 0 ? -1 : 9);
+            D.due("held HALVES", x.held(2, i / 8, i % 8), i % 9 == 0 ? -1 : 0);
+        }
+        Due.force(x, "costs 0; bars if return = 0");
+        for (int n = 0; n < 9; n++) {
+            D.due("there by a RETURN", x.ride(0, 7), 1);
+            x.force(-1);
+            D.due("back by a SINGLE", x.ride(1, 0), 1);
+            x.force(1);
+            D.due("as many again", Due.orders(x, "return 0 to 7; single 7 to 0"), 2);
+        }
+        D.due("nine HALVES besides", x.count(3), 1017);
+        D.due("held, by ORDERS", Due.orders(x, "save held - 1000"), 1);
+        D.due("count(2)", x.count(2), 1017);
+        D.due("used of so many", x.used(0, 7, -1), 1);
+        // SEED 0: a RETURN from 0 to 1 can't be BOUGHT, of which nine are held
+        x.months(0, 1);
+        D.due("drawn(2)", x.drawn(2), 1017);
+        D.due("nine lapse", x.pass(), 9);
+        D.due("count(3)", x.count(3), 1008);
     }
 
     private static void nineHalves() {
@@ -609,6 +654,21 @@ public final class BoundsOfTermsTest {
         D.due("no WAY down, from", x.mostSaved(1, 1), -1);
         D.due("no WAY down, to", x.mostSaved(1, 2), -1);
         D.due("such a number, where there is a WAY", x.mostSaved(0, 3), -1);
+        D.promise("29: of as much SAVED the lowest p, whatever the q");
+        SplitFares y = Offices.line("costs 5; costs 10 + 1 if from = 1 and to = 6 or from = 2 and to = 4");
+        D.due("1 to 6, 2 to 4", y.mostSaved(0, 0), 1);
+        D.due("from", y.mostSaved(0, 1), 1);
+        D.due("to", y.mostSaved(0, 2), 6);
+        Due.force(y, "costs 5; costs 10 + 1 if from = 5 and to = 3 or from = 6 and to = 0");
+        D.due("5 to 3, 6 to 0", y.mostSaved(1, 0), 1);
+        D.due("from", y.mostSaved(1, 1), 5);
+        D.due("to", y.mostSaved(1, 2), 3);
+        Due.force(y, "costs 5; costs 10 + 1 if from = 3 and (to = 5 or to = 6)");
+        D.due("3 to 5, 3 to 6: the lowest q", y.mostSaved(0, 2), 5);
+        Due.force(y, "costs 5; costs 10 + 1 if from = 5 and (to = 3 or to = 0)");
+        D.due("5 to 3, 5 to 0: the lowest q", y.mostSaved(1, 2), 0);
+        Due.force(y, "costs 5; costs 10 + 1 if from = 1 and to = 6; costs 10 + 2 if from = 2 and to = 4");
+        D.due("most is SAVED ahead of the lowest p", y.mostSaved(0, 1), 2);
     }
 
     private static void purseEnd() {
@@ -729,6 +789,40 @@ public final class BoundsOfTermsTest {
         D.due("three are left", x.ask(1), 3);
     }
 
+    /** From 0 by TRAINS that STOP at one STATION more each, at no more, the same: what 7 costs tells them apart. */
+    private static void askWhoIsAlike() {
+        D.promise("35: the most alike, whichever of six TRAINS they are");
+        int[][] others = {{0, 7}, {0, 1, 7}, {0, 2, 7}, {0, 1, 2, 7}};
+        for (int alike = 0; alike < 64; alike++) {
+            int size = Integer.bitCount(alike);
+            if (size != 2 && size != 3) {
+                continue;
+            }
+            SplitFares x = new SplitFares();
+            int other = 0;
+            for (int t = 0; t < 6; t++) {
+                if ((alike >> t & 1) == 1) {
+                    x.train(Due.stops(0, 3, 7), 1, t);
+                } else {
+                    x.train(Due.stops(others[other]), 1, t);
+                    other++;
+                }
+            }
+            Due.force(x, "costs far * far");
+            // of two, 7 costs 49, 37, 29, 27, 25, 25; of three, 3 costs 9 on them, and there is none on the three others
+            D.due("ask(0) of " + alike, x.ask(0), size == 2 ? 7 : 3);
+            D.due("ask(1) of " + alike, x.ask(1), size);
+            x.told(7, 25);
+            D.due("canBe() of " + alike, x.canBe(), alike);
+            D.due("ask(1) of those alone", x.ask(1), size);
+            D.due("ask(0) of those alone", x.ask(0), 0);
+            x.forget();
+            x.told(7, 49);
+            D.due("canBe() of the other one", Integer.bitCount(x.canBe() & ~alike), 1);
+            D.due("ask(1) of the other one", x.ask(1), 1);
+        }
+    }
+
     private static void few() {
         D.promise("36: CHECKS 0, 1, 9, 10 of ten; k 1, 20; n 0, 19, 20, 99");
         int[] checks = {0, 1, 5, 9, 10};
@@ -838,6 +932,17 @@ public final class BoundsOfTermsTest {
         D.due("AT", x.drawn(1), 1);
         x.months(0, 1);
         D.due("AT", x.drawn(1), 0);
+        D.promise("38, 39: a months() that is REFUSED as there are no TRAINS leaves the latest, too");
+        SplitFares y = new SplitFares();
+        y.image(0);
+        y.train(255, 1, 0);
+        y.months(0, 3);
+        y.back(0);
+        D.due("no TRAINS", y.months(0, 3), -3);
+        int[] due = {985, 1, 1, 0};
+        for (int what = 0; what < due.length; what++) {
+            D.due("drawn(" + what + ")", y.drawn(what), due[what]);
+        }
     }
 
     private static void monthsByLaw() {
@@ -1005,6 +1110,28 @@ public final class BoundsOfTermsTest {
         D.due("a seventh TOLD", x.told(0, 0), -5);
         D.due("a tenth RETURN", x.buy(1, 7, 6), -3);
         D.due("a thousandth DAY", x.pass(), -3);
+    }
+
+    private static void imagesOfTold() {
+        D.promise("40, 41: each of six that were TOLD, its STATION and what it was");
+        for (int one = -1; one < 6; one++) {
+            for (int station = 0; station < 2; station++) {
+                SplitFares x = Offices.trains(1);
+                for (int n = 0; n < 6; n++) {
+                    // of one STATION or of one cost it is not so, of the others it is
+                    x.told(n == one && station == 1 ? 7 : n + 1, n == one && station == 0 ? 9 : 10 * (n + 1));
+                }
+                x.image(0);
+                x.forget();
+                for (int n = 0; n < 6; n++) {
+                    x.told(one < 0 ? 0 : n + 2, one < 0 ? 0 : 10 * (n + 2));
+                }
+                D.due("canBe() ahead of back()", x.canBe(), one < 0 ? 0 : 1);
+                x.back(0);
+                D.due("canBe() by all but the " + one + ".", x.canBe(), one < 0 ? 1 : 0);
+                D.due("forget()", x.forget(), 6);
+            }
+        }
     }
 
     private static void countsOfRefusals() {

@@ -973,6 +973,13 @@ public final class BoundsOfTextsTest {
             Due.orders(x, n % 2 == 0 ? "pass" : "pass 1");
             D.due("done, or REFUSED by -6", x.stopped(), -1);
         }
+        D.promise("13, 15: the first that can't be ends it");
+        for (int n = 0; n < 12; n++) {
+            SplitFares x = Offices.line();
+            D.due("all behind it can't be", Due.orders(x, "pass;".repeat(n) + "save 0" + ";ride 5 to 0".repeat(11 - n)), -3);
+            D.due("stopped()", x.stopped(), n);
+            D.due("one call by -3", x.count(10), 1);
+        }
         SplitFares x = new SplitFares();
         D.due("the first time", Due.orders(x, "save 1 - done times 2"), -3);
         D.due("the second time is of the same CLAUSE", x.stopped(), 0);
