@@ -45,6 +45,7 @@ public final class BoundsOfTermsTest {
         imagesOfTold();
         countsOfRefusals();
         status();
+        statusOfMore();
         D.end();
     }
 
@@ -1165,6 +1166,61 @@ public final class BoundsOfTermsTest {
             D.due("call " + i, told < 0 && i != 11 ? told : 0, due[i]);
             D.due("status() behind call " + i, x.status(), due[i]);
         }
+    }
+
+    private static void behind(SplitFares x, String call, long told, int due) {
+        D.due(call, told, due);
+        D.due("status() behind " + call, x.status(), 0);
+        noneByOthers(x, call);
+        D.due("a call that is REFUSED", x.image(2), -1);
+        D.due("status() behind it", x.status(), -1);
+    }
+
+    /** By -1 the calls of image(2) were REFUSED, by another number none was. */
+    private static void noneByOthers(SplitFares x, String call) {
+        D.due("count(9) behind " + call, x.count(9), 0);
+        D.due("count(10) behind " + call, x.count(10), 0);
+        D.due("count(11) behind " + call, x.count(11), 0);
+        D.due("count(12) behind " + call, x.count(12), 0);
+    }
+
+    private static void statusOfMore() {
+        D.promise("43: 0 behind a call that is not REFUSED, whatever it tells");
+        SplitFares x = new SplitFares();
+        behind(x, "train()", x.train(3, 1, 8), 0);
+        behind(x, "another train()", x.train(3, 0, 9), 1);
+        Due.tape(x, "\u0007\u0001\u0008\u0003\u0001\u0009");
+        behind(x, "row()", x.row(), 2);
+        behind(x, "law()", Due.law(x, "costs 1"), 0);
+        behind(x, "another law()", Due.law(x, "costs 10"), 1);
+        behind(x, "a third law()", Due.law(x, "costs 10"), 2);
+        behind(x, "force()", x.force(2), -1);
+        behind(x, "another force()", x.force(1), 2);
+        behind(x, "a third force()", x.force(-1), 1);
+        behind(x, "terms()", x.terms(0, 998), 0);
+        behind(x, "another terms()", x.terms(0, 5), 998);
+        behind(x, "terms() of CHECKS", x.terms(1, 2), 1);
+        behind(x, "told()", x.told(1, 10), 1);
+        behind(x, "another told()", x.told(1, 20), 2);
+        behind(x, "buy()", x.buy(1, 0, 1), 985);
+        behind(x, "buy()", x.buy(0, 1, 2), 975);
+        behind(x, "save()", x.save(7), 982);
+        behind(x, "ride() by two", x.ride(2, 2), 2);
+        behind(x, "pass() of a HALF", x.pass(), 1);
+        behind(x, "pass() of none", x.pass(), 0);
+        behind(x, "undo() of a DAY", x.undo(), 3);
+        behind(x, "undo() of a DAY", x.undo(), 3);
+        behind(x, "undo() of a ride", x.undo(), 1);
+        behind(x, "undo() of pence put by", x.undo(), 2);
+        behind(x, "undo() of a SINGLE", x.undo(), 0);
+        behind(x, "orders() of three", Due.orders(x, "pass times 3"), 3);
+        behind(x, "orders() of none", Due.orders(x, "pass if 1 = 2"), 0);
+        behind(x, "image()", x.image(1), 0);
+        behind(x, "back()", x.back(1), 0);
+        D.due("count(8)", x.count(8), 29);
+        SplitFares y = Offices.trains(1);
+        behind(y, "months()", y.months(0, 3), 1);
+        behind(y, "months() of none used", y.months(0, 1), 0);
     }
 
     /** One call after another: REFUSED, then not. */
